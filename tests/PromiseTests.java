@@ -158,6 +158,8 @@ public final class PromiseTests {
         due("the middle line", x.erase(0, 1), 2);
         due("a star is free", x.figureOf(2), -1);
         due("a star of the line behind", x.figureOf(4), 0);
+        due("the other star of it", x.figureOf(5), 0);
+        throwsDue("the line behind once more", NOT_NOW, () -> x.draw(0, 5, 4));
         due("the line behind has its number", x.erase(0, 1), 1);
         due("a star of it is free", x.figureOf(5), -1);
         due("a star of the first line", x.figureOf(0), 0);
@@ -191,8 +193,36 @@ public final class PromiseTests {
         due("a correct", x.undo(), 0);
         due("a star is where it was", x.placeOf(0), 90);
         throwsDue("no call more", NOT_NOW, () -> x.undo());
+        undoPutsLineBack();
         undoLeavesOthers();
         undoKeepsThirty();
+    }
+
+    private static void undoPutsLineBack() {
+        SkyLoom x = withStars(8, 2);
+        place(x, 1, 20, 0);
+        x.draw(1, 0, 1);
+        x.draw(1, 2, 3);
+        x.draw(1, 4, 5);
+        x.draw(1, 6, 7);
+        x.erase(1, 1);
+        due("an erase", x.undo(), 5);
+        due("one star of its line", x.figureOf(2), 1);
+        due("its other star", x.figureOf(3), 1);
+        throwsDue("its line once more", NOT_NOW, () -> x.draw(1, 2, 3));
+        x.erase(1, 1);
+        due("it has its number", x.figureOf(3), -1);
+        x.undo();
+        x.erase(1, 2);
+        due("the one behind has its number", x.figureOf(4), -1);
+        x.erase(1, 2);
+        due("the last has its number", x.figureOf(7), -1);
+        x.erase(1, 0);
+        due("the first has its number", x.figureOf(1), -1);
+        x.undo();
+        due("a first line is back", x.figureOf(0), 1);
+        x.erase(1, 1);
+        due("with its number", x.figureOf(2), -1);
     }
 
     private static void undoLeavesOthers() {
@@ -478,6 +508,8 @@ public final class PromiseTests {
         due("turn 89", bit(x.isUp(0, 0, 89, 0)), 1);
         due("height 0 is not up", bit(x.isUp(0, 0, 90, 0)), 0);
         due("both down", bit(x.isUp(0, 0, 180, 0)), 0);
+        due("height 1 is up", bit(x.isUp(0, 89, 86, 0)), 1);
+        due("height 0, rounded down, is not", bit(x.isUp(0, 89, 87, 0)), 0);
         x.correct(0, 90, 0);
         due("first star down", bit(x.isUp(0, 0, 0, 0)), 0);
         due("first star up", bit(x.isUp(0, 0, 1, 0)), 1);
@@ -569,6 +601,8 @@ public final class PromiseTests {
         x.correct(1, 15, 0);
         due("of two the first", x.bestHour(0, 0, 0), 0);
         due("of two the first, over midnight", x.bestHour(0, 0, 15), 0);
+        x.correct(1, 172, 0);
+        due("of height 1 alone", x.bestHour(0, 89, 11), 5);
         x.correct(1, 180, 0);
         due("never up together", x.bestHour(0, 0, 0), -1);
         x.correct(0, 0, 30);
@@ -659,9 +693,30 @@ public final class PromiseTests {
         due("up again", bit(x.isWrong(0)), 0);
         x.erase(0, 0);
         due("without lines", bit(x.isWrong(0)), 1);
+        isWrongElsewhere();
         for (int show : new int[] {-1, 2, LEAST, MOST}) {
             throwsDue("show " + show, NO_SUCH, () -> bit(x.isWrong(show)));
         }
+    }
+
+    /** A show keeps its figure, its latitude, its day and its hour. */
+    private static void isWrongElsewhere() {
+        SkyLoom x = withStars(4, 2);
+        x.draw(0, 0, 1);
+        x.draw(1, 2, 3);
+        x.vote(0, 1, 9);
+        place(x, 2, 0, 30);
+        place(x, 3, 0, 30);
+        due("at the pole", x.plan(1, 90, 300, 12), 0);
+        due("at noon", x.plan(1, 0, 180, 12), 1);
+        x.correct(0, 180, -80);
+        due("another figure's star", x.wrong(), 0);
+        x.correct(2, 180, 30);
+        due("always up at the pole", bit(x.isWrong(0)), 0);
+        due("not up at noon", bit(x.isWrong(1)), 1);
+        x.correct(2, 0, -30);
+        due("never up at the pole", bit(x.isWrong(0)), 1);
+        due("up at noon", bit(x.isWrong(1)), 0);
     }
 
     private static void wrong() {

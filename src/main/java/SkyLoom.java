@@ -468,7 +468,10 @@ public final class SkyLoom {
 
         private static final int HALF = CIRCLE / 2;
 
-        /** The product is 0 to 8100, so that the divisor is above 0 for every angle. */
+        /**
+         * The product is 0 to 8100, so the divisor is above 0 for every angle; it is looked at all
+         * the same, as LANGUAGE.md wants of each one.
+         */
         static int sine(int angle) {
             int turned = Math.floorMod(angle, CIRCLE);
             int inHalf = turned % HALF;
