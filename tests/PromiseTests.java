@@ -118,6 +118,8 @@ public final class PromiseTests {
         for (int line = 0; line < 9; line++) {
             due("line", x.draw(0, line, line + 1), line);
         }
+        throwsDue("the first line", NOT_NOW, () -> x.draw(0, 0, 1));
+        throwsDue("the last line", NOT_NOW, () -> x.draw(0, 8, 9));
         throwsDue("the same line", NOT_NOW, () -> x.draw(0, 3, 4));
         throwsDue("the same line turned", NOT_NOW, () -> x.draw(0, 4, 3));
         throwsDue("first star of another", NOT_NOW, () -> x.draw(1, 9, 12));
@@ -455,6 +457,12 @@ public final class PromiseTests {
         x.vote(0, 2, -1);
         x.vote(1, 2, -1);
         due("no vote, no name", x.nameOf(2), -1);
+        x.vote(0, 2, 0);
+        due("the lowest name", x.nameOf(2), 0);
+        x.vote(5, 0, 0);
+        x.vote(4, 0, 0);
+        x.vote(1, 0, 0);
+        due("the lowest name given once", x.nameOf(2), -1);
         for (int figure : new int[] {-1, 3, LEAST, MOST}) {
             throwsDue("figure " + figure, NO_SUCH, () -> x.nameOf(figure));
         }
@@ -572,6 +580,7 @@ public final class PromiseTests {
         SkyLoom x = shownLine();
         due("hours 0 to 5 and 19 to 23", x.hoursByStars(0, 0, 0), 0x3F | 0x1F << 19);
         due("a day later hour 18, too", x.hoursByStars(0, 0, 1), 0x3F | 0x3F << 18);
+        due("height 1 in hour 5", x.hoursByStars(0, 89, 11), 0x3F | 0x3F << 18);
         x.correct(1, 150, 0);
         due("what both have in common: 5, not 4 with height 0", x.hoursByStars(0, 0, 0), 1 << 5);
         x.correct(1, 0, 0);
