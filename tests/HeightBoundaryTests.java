@@ -222,8 +222,7 @@ public final class HeightBoundaryTests extends Cases {
     }
 
     static void promise18_theLastFigureIsTaken() {
-        SkyLoom x = web(2, 8);
-        x.draw(7, 0, 1);
+        SkyLoom x = lastWithALine();
         due(1, bit(x.isUp(7, 0, 0, 0)));
         due(0, bit(x.isUp(6, 0, 0, 0)));
     }
@@ -231,6 +230,10 @@ public final class HeightBoundaryTests extends Cases {
     static void promise18_behindTheLastFigureIsRefused() {
         refused(NO_SUCH, Cases::lively, upFrom(3), (x, f) -> bit(x.isUp(f, 0, 0, 0)));
         refused(NO_SUCH, Cases::crowded, upFrom(8), (x, f) -> bit(x.isUp(f, 0, 0, 0)));
+    }
+
+    static void promise18_withoutFiguresAllAreRefused() {
+        refused(NO_SUCH, SkyLoom::new, x -> bit(x.isUp(0, 0, 0, 0)));
     }
 
     static void promise18_latitudeMinus90And90AreTaken() {
@@ -310,6 +313,16 @@ public final class HeightBoundaryTests extends Cases {
     static void promise19_behindTheLastFigureIsRefused() {
         refused(NO_SUCH, Cases::lively, upFrom(3), (x, f) -> x.hours(f, 0, 0));
         refused(NO_SUCH, Cases::crowded, upFrom(8), (x, f) -> x.hours(f, 0, 0));
+    }
+
+    static void promise19_theLastFigureIsTaken() {
+        SkyLoom x = lastWithALine();
+        due(0x3F | 0x1F << 19, x.hours(7, 0, 0));
+        due(0, x.hours(6, 0, 0));
+    }
+
+    static void promise19_withoutFiguresAllAreRefused() {
+        refused(NO_SUCH, SkyLoom::new, x -> x.hours(0, 0, 0));
     }
 
     static void promise19_latitudeMinus90IsTaken() {
@@ -400,6 +413,16 @@ public final class HeightBoundaryTests extends Cases {
         refused(NO_SUCH, Cases::crowded, upFrom(8), (x, f) -> x.hoursByStars(f, 0, 0));
     }
 
+    static void promise20_theLastFigureIsTaken() {
+        SkyLoom x = lastWithALine();
+        due(0x3F | 0x1F << 19, x.hoursByStars(7, 0, 0));
+        due(0, x.hoursByStars(6, 0, 0));
+    }
+
+    static void promise20_withoutFiguresAllAreRefused() {
+        refused(NO_SUCH, SkyLoom::new, x -> x.hoursByStars(0, 0, 0));
+    }
+
     static void promise20_latitudeMinus90IsTaken() {
         due(ALL_HOURS, figureAt(0, -1, 0, -1).hoursByStars(0, -90, 0));
     }
@@ -482,6 +505,16 @@ public final class HeightBoundaryTests extends Cases {
         refused(NO_SUCH, Cases::crowded, upFrom(8), (x, f) -> x.bestHour(f, 0, 0));
     }
 
+    static void promise21_theLastFigureIsTaken() {
+        SkyLoom x = lastWithALine();
+        due(0, x.bestHour(7, 0, 0));
+        due(NONE, x.bestHour(6, 0, 0));
+    }
+
+    static void promise21_withoutFiguresAllAreRefused() {
+        refused(NO_SUCH, SkyLoom::new, x -> x.bestHour(0, 0, 0));
+    }
+
     static void promise21_latitudeMinus90And90AreTaken() {
         due(0, figureAt(0, -1, 0, -1).bestHour(0, -90, 0));
         due(0, figureAt(0, 1, 0, 1).bestHour(0, 90, 0));
@@ -550,6 +583,16 @@ public final class HeightBoundaryTests extends Cases {
     static void promise22_behindTheLastFigureIsRefused() {
         refused(NO_SUCH, Cases::lively, upFrom(3), (x, f) -> x.season(f, 0, 0));
         refused(NO_SUCH, Cases::crowded, upFrom(8), (x, f) -> x.season(f, 0, 0));
+    }
+
+    static void promise22_theLastFigureIsTaken() {
+        SkyLoom x = lastWithALine();
+        due(90 + 89 + 5, x.season(7, 0, 0));
+        due(0, x.season(6, 0, 0));
+    }
+
+    static void promise22_withoutFiguresAllAreRefused() {
+        refused(NO_SUCH, SkyLoom::new, x -> x.season(0, 0, 0));
     }
 
     static void promise22_latitudeMinus90IsTaken() {

@@ -170,6 +170,10 @@ public final class NameBoundaryTests extends Cases {
         refused(NO_SUCH, Cases::lively, x -> x.votes(-1, -1));
     }
 
+    static void promise15_withoutFiguresAllAreRefused() {
+        refused(NO_SUCH, SkyLoom::new, x -> x.votes(0, 0));
+    }
+
     // ---- promise 16: nameOf
 
     static void promise16_figureBelow0IsRefused() {
@@ -179,6 +183,10 @@ public final class NameBoundaryTests extends Cases {
     static void promise16_behindTheLastFigureIsRefused() {
         refused(NO_SUCH, Cases::lively, upFrom(3), (x, figure) -> x.nameOf(figure));
         refused(NO_SUCH, Cases::crowded, upFrom(8), (x, figure) -> x.nameOf(figure));
+    }
+
+    static void promise16_withoutFiguresAllAreRefused() {
+        refused(NO_SUCH, SkyLoom::new, x -> x.nameOf(0));
     }
 
     static void promise16_withoutVotesItIsNone() {

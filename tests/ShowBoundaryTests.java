@@ -63,8 +63,7 @@ public final class ShowBoundaryTests extends Cases {
     }
 
     static void promise23_theLastFigureIsTaken() {
-        SkyLoom x = web(2, 8);
-        x.draw(7, 0, 1);
+        SkyLoom x = lastWithALine();
         x.vote(0, 7, 2);
         due(0, x.plan(7, 0, 0, 0));
         due(0, x.wrong());
@@ -73,6 +72,10 @@ public final class ShowBoundaryTests extends Cases {
     static void promise23_behindTheLastFigureIsRefused() {
         refused(NO_SUCH, Cases::lively, upFrom(3), (x, f) -> x.plan(f, 0, 0, 0));
         refused(NO_SUCH, Cases::crowded, upFrom(8), (x, f) -> x.plan(f, 0, 0, 0));
+    }
+
+    static void promise23_withoutFiguresAllAreRefused() {
+        refused(NO_SUCH, SkyLoom::new, x -> x.plan(0, 0, 0, 0));
     }
 
     static void promise23_latitudeMinus90IsTaken() {

@@ -437,8 +437,7 @@ public final class StarBoundaryTests extends Cases {
     }
 
     static void promise06_theLastFigureIsTaken() {
-        SkyLoom x = web(2, 8);
-        x.draw(7, 0, 1);
+        SkyLoom x = lastWithALine();
         due(0, x.erase(7, 0));
     }
 
@@ -777,8 +776,7 @@ public final class StarBoundaryTests extends Cases {
     }
 
     static void promise10_theLastFigureIsTaken() {
-        SkyLoom x = web(2, 8);
-        x.draw(7, 0, 1);
+        SkyLoom x = lastWithALine();
         due(1, x.lines(7));
         due(0, x.lines(6));
     }
@@ -786,6 +784,10 @@ public final class StarBoundaryTests extends Cases {
     static void promise10_behindTheLastFigureIsRefused() {
         refused(NO_SUCH, Cases::lively, upFrom(3), (x, figure) -> x.lines(figure));
         refused(NO_SUCH, Cases::crowded, upFrom(8), (x, figure) -> x.lines(figure));
+    }
+
+    static void promise10_withoutFiguresAllAreRefused() {
+        refused(NO_SUCH, SkyLoom::new, x -> x.lines(0));
     }
 
     // ---- promise 11: placeOf
@@ -811,6 +813,10 @@ public final class StarBoundaryTests extends Cases {
     static void promise11_behindTheLastStarIsRefused() {
         refused(NO_SUCH, Cases::lively, upFrom(7), (x, star) -> x.placeOf(star));
         refused(NO_SUCH, Cases::crowded, upFrom(24), (x, star) -> x.placeOf(star));
+    }
+
+    static void promise11_withoutStarsAllAreRefused() {
+        refused(NO_SUCH, SkyLoom::new, x -> x.placeOf(0));
     }
 
     // ---- promise 12: figureOf
@@ -857,6 +863,17 @@ public final class StarBoundaryTests extends Cases {
     static void promise12_behindTheLastStarIsRefused() {
         refused(NO_SUCH, Cases::lively, upFrom(7), (x, star) -> x.figureOf(star));
         refused(NO_SUCH, Cases::crowded, upFrom(24), (x, star) -> x.figureOf(star));
+    }
+
+    static void promise12_theLastStarIsTaken() {
+        SkyLoom x = web(24, 1);
+        x.draw(0, 0, 23);
+        due(0, x.figureOf(23));
+        due(NONE, x.figureOf(22));
+    }
+
+    static void promise12_withoutStarsAllAreRefused() {
+        refused(NO_SUCH, SkyLoom::new, x -> x.figureOf(0));
     }
 
     // ---- promise 13: crossings

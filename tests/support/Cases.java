@@ -116,6 +116,13 @@ abstract class Cases {
         return x;
     }
 
+    /** The last figure there can be has a line between two stars in 0, 0; the others have none. */
+    static SkyLoom lastWithALine() {
+        SkyLoom x = web(2, 8);
+        x.draw(7, 0, 1);
+        return x;
+    }
+
     /** Figure 0 keeps the line from 1 to 2, its line from 0 to 1 is erased; figure 1 has none. */
     static SkyLoom pathWithOneErased() {
         SkyLoom x = path(2, 4);
