@@ -22,37 +22,47 @@ public final class LanguageTests {
 
     private static final Path FILE = Path.of("src/main/java/SkyLoom.java");
 
+    /** The document's own lines, in its order, with what it says ahead of some of them. */
     private static final String[] FACE = {
-        "public int addStar(int,int) throws IllegalArgumentException,IllegalStateException",
-        "public int correct(int,int,int) throws IndexOutOfBoundsException,IllegalArgumentException",
-        "public int addFigure() throws IllegalStateException",
-        "public int draw(int,int,int) throws IndexOutOfBoundsException,IllegalArgumentException,"
-            + "IllegalStateException",
-        "public int erase(int,int) throws IndexOutOfBoundsException",
-        "public int undo() throws IllegalStateException",
-        "public int stars()",
-        "public int figures()",
-        "public int lines(int) throws IndexOutOfBoundsException",
-        "public int placeOf(int) throws IndexOutOfBoundsException",
-        "public int figureOf(int) throws IndexOutOfBoundsException",
-        "public int crossings(int,int) throws IndexOutOfBoundsException",
-        "public int vote(int,int,int) throws IndexOutOfBoundsException,IllegalArgumentException",
-        "public int votes(int,int) throws IndexOutOfBoundsException,IllegalArgumentException",
-        "public int nameOf(int) throws IndexOutOfBoundsException",
-        "public int height(int,int,int,int) throws IndexOutOfBoundsException,"
-            + "IllegalArgumentException",
-        "public boolean isUp(int,int,int,int) throws IndexOutOfBoundsException,"
-            + "IllegalArgumentException",
-        "public int hours(int,int,int) throws IndexOutOfBoundsException,IllegalArgumentException",
-        "public int hoursByStars(int,int,int) throws IndexOutOfBoundsException,"
-            + "IllegalArgumentException",
-        "public int bestHour(int,int,int) throws IndexOutOfBoundsException,"
-            + "IllegalArgumentException",
-        "public int season(int,int,int) throws IndexOutOfBoundsException,IllegalArgumentException",
-        "public int plan(int,int,int,int) throws IndexOutOfBoundsException,"
-            + "IllegalArgumentException,IllegalStateException",
-        "public boolean isWrong(int) throws IndexOutOfBoundsException",
-        "public int wrong()",
+        "// ---- stars and lines",
+        "int addStar(int across, int up) throws IllegalArgumentException, IllegalStateException",
+        "int correct(int star, int across, int up) throws "
+            + "IndexOutOfBoundsException, IllegalArgumentException",
+        "int addFigure() throws IllegalStateException",
+        "int draw(int figure, int star, int other) throws "
+            + "IndexOutOfBoundsException, IllegalArgumentException, IllegalStateException",
+        "int erase(int figure, int line) throws IndexOutOfBoundsException",
+        "int undo() throws IllegalStateException",
+        "int stars()",
+        "int figures()",
+        "int lines(int figure) throws IndexOutOfBoundsException",
+        "int placeOf(int star) throws IndexOutOfBoundsException",
+        "int figureOf(int star) throws IndexOutOfBoundsException",
+        "int crossings(int figure, int other) throws IndexOutOfBoundsException",
+        "// ---- names",
+        "int vote(int voter, int figure, int name) throws "
+            + "IndexOutOfBoundsException, IllegalArgumentException",
+        "int votes(int figure, int name) throws "
+            + "IndexOutOfBoundsException, IllegalArgumentException",
+        "int nameOf(int figure) throws IndexOutOfBoundsException",
+        "// ---- heights",
+        "int height(int star, int latitude, int day, int hour) throws "
+            + "IndexOutOfBoundsException, IllegalArgumentException",
+        "boolean isUp(int figure, int latitude, int day, int hour) throws "
+            + "IndexOutOfBoundsException, IllegalArgumentException",
+        "int hours(int figure, int latitude, int day) throws "
+            + "IndexOutOfBoundsException, IllegalArgumentException",
+        "int hoursByStars(int figure, int latitude, int day) throws "
+            + "IndexOutOfBoundsException, IllegalArgumentException",
+        "int bestHour(int figure, int latitude, int day) throws "
+            + "IndexOutOfBoundsException, IllegalArgumentException",
+        "int season(int figure, int latitude, int hour) throws "
+            + "IndexOutOfBoundsException, IllegalArgumentException",
+        "// ---- shows",
+        "int plan(int figure, int latitude, int day, int hour) throws "
+            + "IndexOutOfBoundsException, IllegalArgumentException, IllegalStateException",
+        "boolean isWrong(int show) throws IndexOutOfBoundsException",
+        "int wrong()",
     };
 
     private static final String[] RULED_OUT = {
@@ -68,6 +78,7 @@ public final class LanguageTests {
         checkFace();
         checkNames();
         checkClasses();
+        checkOrder(Files.readString(FILE));
         checkText(Files.readAllLines(FILE));
         System.out.println("LanguageTests: " + wrong + " wrong");
         System.exit(wrong == 0 ? 0 : 1);
@@ -83,7 +94,13 @@ public final class LanguageTests {
                 methods.add(shortened(method.toString()));
             }
         }
-        check("the methods: " + methods, methods.equals(new TreeSet<>(Arrays.asList(FACE))));
+        Set<String> due = new TreeSet<>();
+        for (String member : FACE) {
+            if (!isHeading(member)) {
+                due.add("public " + withoutNames(member));
+            }
+        }
+        check("the methods: " + methods, methods.equals(due));
         List<String> others = new ArrayList<>();
         for (Field field : face.getDeclaredFields()) {
             if (isSeen(field)) {
@@ -97,12 +114,32 @@ public final class LanguageTests {
                 List.of("public static final int SkyLoom.NONE", "public SkyLoom()")));
     }
 
+    private static boolean isHeading(String member) {
+        return member.startsWith("//");
+    }
+
+    /** As the compiled class has it: without the names of the arguments. */
+    private static String withoutNames(String member) {
+        return member.replaceAll("(int) \\w+([,)])", "$1$2").replace(", ", ",");
+    }
+
     private static boolean isSeen(Member member) {
         return !Modifier.isPrivate(member.getModifiers()) && !member.isSynthetic();
     }
 
     private static String shortened(String member) {
         return member.replace("java.lang.", "").replace("SkyLoom.", "");
+    }
+
+    /** The arguments bear the document's names, and all stands in its order. */
+    private static void checkOrder(String text) {
+        String spaced = text.replaceAll("\\s+", " ");
+        int from = 0;
+        for (String member : FACE) {
+            int at = spaced.indexOf(isHeading(member) ? member : "public " + member + " {", from);
+            check("in its place: " + member, at >= from);
+            from = Math.max(from, at);
+        }
     }
 
     private static void checkNames() {

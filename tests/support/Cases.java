@@ -7,9 +7,9 @@ import java.util.function.Function;
 import java.util.function.Supplier;
 
 /**
- * What the boundary tests share. Each of their methods whose name begins with "promise" is the test
- * of one boundary case, named after the promise and the case; it is found by its name, so that none
- * can be left out of a list.
+ * What the boundary and the sentence tests share. Each of their methods whose name begins with
+ * "promise" or "terms" is the test of one case, named after the promise, or the document's terms,
+ * and the case; it is found by its name, so that none can be left out of a list.
  */
 abstract class Cases {
 
@@ -51,7 +51,7 @@ abstract class Cases {
     private static List<Method> testsOf(Class<?> cases) {
         List<Method> tests = new ArrayList<>();
         for (Method method : cases.getDeclaredMethods()) {
-            if (method.getName().startsWith("promise")) {
+            if (method.getName().matches("(promise\\d\\d|terms)_.*")) {
                 tests.add(method);
             }
         }
