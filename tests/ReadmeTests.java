@@ -1,24 +1,20 @@
 import java.io.ByteArrayOutputStream;
-import java.io.File;
 import java.io.IOException;
-import java.io.InputStream;
+import java.io.PrintStream;
 import java.nio.charset.StandardCharsets;
 import java.nio.file.Files;
 import java.nio.file.Path;
-import java.util.ArrayList;
-import java.util.List;
-import javax.tools.JavaCompiler;
 import javax.tools.ToolProvider;
 
 /**
- * README.md's example compiles and prints what stands under it. It is run in the project's folder.
+ * README.md's example compiles and prints what stands under it. It is run in the project's folder,
+ * and puts the example beside its own class, where Java finds it.
  */
 public final class ReadmeTests {
 
-    private static final String CLASS = "src/main/java/SkyLoom.java";
     private static final String LINE_END = "\n";
 
-    public static void main(String[] args) throws IOException, InterruptedException {
+    public static void main(String[] args) throws IOException, ReflectiveOperationException {
         String readme = Files.readString(Path.of("README.md"));
         String printed = printedBy(block(readme, "java"));
         String due = block(readme, "text");
@@ -39,34 +35,24 @@ public final class ReadmeTests {
         return from < 0 || to < 0 ? "" : readme.substring(from + opening.length(), to + 1);
     }
 
-    private static String printedBy(String example) throws IOException, InterruptedException {
-        Path folder = Files.createTempDirectory("readme");
-        Path source = Files.writeString(folder.resolve("Mine.java"), example);
+    private static String printedBy(String example)
+            throws IOException, ReflectiveOperationException {
+        String folder = System.getProperty("java.class.path");
+        Path source = Files.writeString(Path.of(folder, "Mine.java"), example);
         ByteArrayOutputStream said = new ByteArrayOutputStream();
-        JavaCompiler compiler = ToolProvider.getSystemJavaCompiler();
-        int failed = compiler.run(null, said, said,
-                "-d", folder.toString(), CLASS, source.toString());
-        String printed = failed == 0 ? runMine(folder) : said.toString(StandardCharsets.UTF_8);
-        remove(folder);
-        return printed;
+        int failed = ToolProvider.getSystemJavaCompiler().run(null, said, said,
+                "-cp", folder, "-d", folder, source.toString());
+        if (failed == 0) {
+            runMine(said);
+        }
+        return said.toString(StandardCharsets.UTF_8).replace(System.lineSeparator(), LINE_END);
     }
 
-    private static String runMine(Path folder) throws IOException, InterruptedException {
-        String java = Path.of(System.getProperty("java.home"), "bin", "java").toString();
-        Process process = new ProcessBuilder(List.of(java, "-cp", folder.toString(), "Mine"))
-                .redirectErrorStream(true).start();
-        try (InputStream answers = process.getInputStream()) {
-            String printed = new String(answers.readAllBytes(), StandardCharsets.UTF_8);
-            process.waitFor();
-            return printed.replace(System.lineSeparator(), LINE_END);
-        }
-    }
-
-    private static void remove(Path folder) {
-        List<File> files = new ArrayList<>(List.of(folder.toFile().listFiles()));
-        files.add(folder.toFile());
-        for (File file : files) {
-            file.delete();
-        }
+    private static void runMine(ByteArrayOutputStream said) throws ReflectiveOperationException {
+        PrintStream screen = System.out;
+        System.setOut(new PrintStream(said, true, StandardCharsets.UTF_8));
+        Class.forName("Mine").getMethod("main", String[].class)
+                .invoke(null, (Object) new String[0]);
+        System.setOut(screen);
     }
 }
